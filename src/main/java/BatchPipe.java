@@ -313,6 +313,7 @@ public final class BatchPipe {
         return unit % PLACES;
     }
 
+    // Every unit is of a batch that there is; the test only keeps the index within the row.
     private Batch batchOf(int unit) {
         int number = unit / PLACES;
         return number >= 0 && number < batchCount ? batches[number] : batches[0];
@@ -491,18 +492,15 @@ public final class BatchPipe {
         return root;
     }
 
-    private int halfMixOf(Batch batch) {
-        return (mixOf(batch) + 1) / 2;
-    }
-
+    // So many are fewer than half the mix, rounded up, if twice as many are fewer than the mix.
     private void pour(Batch batch, int place, Tank tank) {
         int grade = batch.oil.grade;
         boolean mixed = false;
-        if (batch.ahead != null && place < halfMixOf(batch)) {
+        if (batch.ahead != null && place * 2 < mixOf(batch)) {
             mixed = true;
             grade = Math.max(grade, batch.ahead.oil.grade);
         }
-        if (batch.behind != null && batch.entered - 1 - place < halfMixOf(batch.behind)) {
+        if (batch.behind != null && (batch.entered - 1 - place) * 2 < mixOf(batch.behind)) {
             mixed = true;
             grade = Math.max(grade, batch.behind.oil.grade);
         }

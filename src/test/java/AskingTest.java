@@ -215,7 +215,12 @@ public final class AskingTest {
         Check.due("the inlet, ten of the product 2", 11 + 9 + 13 + 350, x.pressure(0, 10));
         Check.due("the last unit ahead is of the product 2", 9 + 13 + 350 - 60, x.pressure(1, 10));
         Check.due("the last unit ahead is of the product 1", 13 + 350 - 210, x.pressure(2, 10));
-        x.pass(5);
+        x.pass(4);
+        x.rate(9);
+        x.pass(1);
+        Check.due("the last one of the product 1 at the outlet", 11 + 21 + 30 + 350, x.pressure(0, 10));
+        x.rate(1);
+        x.pass(1);
         Check.due("all of the product 2", 11 + 21 + 31 + 150, x.pressure(0, 10));
         Check.due("all of it, from the second on", 21 + 31 + 150 - 60, x.pressure(1, 10));
         Check.due("all of it, from the last on", 31 + 150 - 90, x.pressure(2, 10));
@@ -231,6 +236,12 @@ public final class AskingTest {
         x.product(0, 8, 10, 0, 0);
         Check.due("exactly 100 hundredths", 3, x.pressure(0, 2));
         Check.due("150 hundredths", 6, x.pressure(0, 3));
+        BatchPipe y = opened(0, 10);
+        y.product(0, 8, 10, 0, 0);
+        y.order(0, 0, 1);
+        y.rate(1);
+        y.pass(1);
+        Check.due("101 hundredths, the dirt with them", 2, y.pressure(0, 1));
     }
 
     private static void pressureIsNoneAtLeast() {
