@@ -90,7 +90,7 @@ public final class BatchPipe {
         checkRange(grade, 0, WORST_GRADE);
         checkRange(barred, 0, ALL_PRODUCTS);
         if ((barred & 1 << product) != 0) {
-            throw new IllegalArgumentException("a product bears itself");
+            throw new IllegalArgumentException("a product bars itself");
         }
         products[product].tell(weight, thickness, grade, barred);
     }

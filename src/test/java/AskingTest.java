@@ -29,15 +29,6 @@ public final class AskingTest {
         Check.end();
     }
 
-    private static BatchPipe opened(int product, int... holds) {
-        BatchPipe x = new BatchPipe();
-        for (int h : holds) {
-            x.segment(h, 0, 500);
-        }
-        x.open(product);
-        return x;
-    }
-
     private static void batchRefuses() {
         BatchPipe x = new BatchPipe();
         Check.index("no batch 0, closed", () -> x.batch(0, 0));
@@ -58,7 +49,7 @@ public final class AskingTest {
     }
 
     private static void batchTellsAll() {
-        BatchPipe x = opened(2, 5, 5);
+        BatchPipe x = Pipes.opened(2, 5, 5);
         x.order(1, 4, 30);
         x.rate(8);
         x.drop(0, 2, 1);
@@ -75,7 +66,7 @@ public final class AskingTest {
     }
 
     private static void mixGrowsTillItsFirstUnitGoes() {
-        BatchPipe x = opened(0, 24);
+        BatchPipe x = Pipes.opened(0, 24);
         x.order(0, 1, 3);
         x.order(0, 2, 200);
         x.rate(1);
@@ -96,7 +87,7 @@ public final class AskingTest {
     }
 
     private static void mixStaysWhenTheDropTakesItsFirstUnit() {
-        BatchPipe x = opened(0, 9, 50);
+        BatchPipe x = Pipes.opened(0, 9, 50);
         x.order(0, 1, 200);
         x.rate(1);
         x.pass(9);
@@ -107,7 +98,7 @@ public final class AskingTest {
         x.drop(-1, 1, 1);
         x.pass(20);
         Check.due("dropped: it stays", 3, x.batch(1, 6));
-        BatchPipe y = opened(0, 9, 50);
+        BatchPipe y = Pipes.opened(0, 9, 50);
         y.order(0, 1, 200);
         y.rate(1);
         y.pass(9);
@@ -117,7 +108,7 @@ public final class AskingTest {
     }
 
     private static void mixOfOneProductIsNone() {
-        BatchPipe x = opened(3, 5);
+        BatchPipe x = Pipes.opened(3, 5);
         x.product(0, 8, 3, 3, 0);
         x.order(0, 3, 20);
         x.order(0, 0, 20);
@@ -227,7 +218,7 @@ public final class AskingTest {
     }
 
     private static void pressureIsRoundedUpForEachSegment() {
-        BatchPipe x = opened(0, 5, 5, 5);
+        BatchPipe x = Pipes.opened(0, 5, 5, 5);
         for (int units = 1; units <= 6; units++) {
             Check.due("fifteen each, up to 90 hundredths", 3, x.pressure(0, units));
         }
@@ -236,7 +227,7 @@ public final class AskingTest {
         x.product(0, 8, 10, 0, 0);
         Check.due("exactly 100 hundredths", 3, x.pressure(0, 2));
         Check.due("150 hundredths", 6, x.pressure(0, 3));
-        BatchPipe y = opened(0, 10);
+        BatchPipe y = Pipes.opened(0, 10);
         y.product(0, 8, 10, 0, 0);
         y.order(0, 0, 1);
         y.rate(1);
@@ -325,7 +316,7 @@ public final class AskingTest {
     }
 
     private static void tankHasMixedUnits() {
-        BatchPipe x = opened(0, 20);
+        BatchPipe x = Pipes.opened(0, 20);
         x.order(0, 3, 100);
         x.rate(1);
         // In the minute m goes the unit m - 1 of the batch 0, behind which are 20 - m of it, and the
@@ -345,7 +336,7 @@ public final class AskingTest {
         x.pass(10);
         Check.due("no more", 4, x.tank(0, 2));
         Check.due("units", 32, x.tank(0, 0));
-        BatchPipe y = opened(0, 30, 30);
+        BatchPipe y = Pipes.opened(0, 30, 30);
         y.order(0, 3, 200);
         y.rate(1);
         y.drop(0, 1, 2);
@@ -363,7 +354,7 @@ public final class AskingTest {
     }
 
     private static void tankHasTheWorstGrade() {
-        BatchPipe x = opened(5, 5);
+        BatchPipe x = Pipes.opened(5, 5);
         x.order(0, 1, 100);
         x.rate(1);
         x.pass(1);
@@ -376,7 +367,7 @@ public final class AskingTest {
         x.receive(1);
         x.pass(1);
         Check.due("another tank", 1, x.tank(1, 1));
-        BatchPipe y = opened(5, 5);
+        BatchPipe y = Pipes.opened(5, 5);
         y.order(0, 1, 100);
         y.rate(1);
         y.pass(5);
@@ -414,7 +405,7 @@ public final class AskingTest {
     }
 
     private static void fullTankSpills() {
-        BatchPipe x = opened(0, 60, 50);
+        BatchPipe x = Pipes.opened(0, 60, 50);
         x.order(0, 5, 200);
         x.rate(10);
         x.pass(10);
@@ -450,7 +441,7 @@ public final class AskingTest {
     }
 
     private static void pipeTellsTheBalance() {
-        BatchPipe x = opened(0, 5, 5, 5);
+        BatchPipe x = Pipes.opened(0, 5, 5, 5);
         x.order(0, 0, 200);
         x.rate(4);
         x.drop(1, 1, 1);
@@ -484,7 +475,7 @@ public final class AskingTest {
     }
 
     private static void pipeTellsTheRate() {
-        BatchPipe x = opened(0, 5);
+        BatchPipe x = Pipes.opened(0, 5);
         x.rate(6);
         Check.due("no minute yet", 0, x.pipe(0));
         x.pass(1);
@@ -497,7 +488,7 @@ public final class AskingTest {
     }
 
     private static void dirtGrows() {
-        BatchPipe x = opened(0, 5, 5);
+        BatchPipe x = Pipes.opened(0, 5, 5);
         Check.index("dirt(-1)", () -> x.dirt(-1));
         Check.index("dirt(2)", () -> x.dirt(2));
         Check.due("at first", 0, x.dirt(1));
@@ -553,7 +544,7 @@ public final class AskingTest {
     }
 
     private static void shareByWhatEntered() {
-        BatchPipe x = opened(0, 5);
+        BatchPipe x = Pipes.opened(0, 5);
         x.order(0, 0, 10);
         x.order(1, 1, 4);
         x.order(2, 0, 100);

@@ -42,6 +42,10 @@ final class Check {
         due(what, "nothing", thrownBy(call));
     }
 
+    static void thrown(String what, String due, Call call) {
+        due(what, due, thrownBy(call));
+    }
+
     /** The name of the very class that was thrown: one below it is not what the document says. */
     private static String thrownBy(Call call) {
         try {

@@ -1,7 +1,12 @@
-/** Long runs of calls, the same ones each time, on an object and on the model: all answers are alike. */
+/**
+ * Long runs of calls, the same ones each time, on an object and on the model: all answers are alike. A run has
+ * at most 512 calls, for behind them the answers are free.
+ */
 public final class ModelTest {
-    private static final int RUNS = 400;
-    private static final int CALLS = 500;
+    private static final int RUNS = 2000;
+    // Each time one call that changes something and one that asks.
+    private static final int TIMES = 250;
+    private static final int TIMES_AHEAD_OF_ALL = 125;
 
     private interface Asked {
         int answer();
@@ -79,11 +84,14 @@ public final class ModelTest {
             int limit = run % 4 == 0 ? between(10, 60) : between(100, 500);
             alike("segment", m.segment(holds, height, limit), () -> x.segment(holds, height, limit));
         }
-        for (int k = 0; k < CALLS; k++) {
+        boolean asksAll = run % 2 == 1;
+        for (int k = 0; k < (asksAll ? TIMES_AHEAD_OF_ALL : TIMES); k++) {
             change(below(40), k);
             ask(below(9));
         }
-        askAll();
+        if (asksAll) {
+            askAll(run / 2 % 3);
+        }
     }
 
     private void change(int which, int call) {
@@ -152,24 +160,26 @@ public final class ModelTest {
         }
     }
 
-    private void askAll() {
-        for (int k = 0; k < 365; k++) {
-            int unit = k;
+    private void askAll(int kind) {
+        for (int k = 0; k < 120 && kind == 0; k++) {
+            int unit = run % 4 == 1 ? k : 3 * k;
             alike("unit at the end", m.unit(unit), () -> x.unit(unit));
             alike("unitAnew at the end", m.unit(unit), () -> x.unitAnew(unit));
         }
-        for (int k = 0; k < 40 * 8; k++) {
+        for (int k = 0; k < 30 * 8 && kind == 1; k++) {
             int batch = k / 8;
             int what = k % 8;
             alike("batch at the end", m.batch(batch, what), () -> x.batch(batch, what));
         }
-        for (int k = 0; k < 12; k++) {
-            int tank = k / 3;
-            int what = k % 3;
-            alike("tank at the end", m.tank(tank, what), () -> x.tank(tank, what));
+        for (int k = 0; k < 66 && kind == 2; k++) {
+            int segment = k / 11;
+            int units = k % 11;
+            alike("pressure at the end", m.pressure(segment, units), () -> x.pressure(segment, units));
+            alike("share at the end", m.share(segment, units), () -> x.share(segment, units));
         }
-        for (int k = 0; k < 6; k++) {
+        for (int k = 0; k < 12 && kind == 2; k++) {
             int what = k;
+            alike("tank at the end", m.tank(what / 3, what % 3), () -> x.tank(what / 3, what % 3));
             alike("pipe at the end", m.pipe(what), () -> x.pipe(what));
             alike("dirt at the end", m.dirt(what), () -> x.dirt(what));
         }

@@ -24,15 +24,6 @@ public final class OrdersRatesDropsTest {
         Check.end();
     }
 
-    private static BatchPipe opened(int... holds) {
-        BatchPipe x = new BatchPipe();
-        for (int h : holds) {
-            x.segment(h, 0, 500);
-        }
-        x.open(0);
-        return x;
-    }
-
     private static void orderIsNumbered() {
         BatchPipe x = new BatchPipe();
         Check.due("order ahead of the opening", 1, x.order(3, 5, 200));
@@ -98,7 +89,7 @@ public final class OrdersRatesDropsTest {
         }
         Check.due("nothing waits", 0, x.pass(1));
         Check.due("nothing moves", 4, x.unit(4));
-        BatchPipe y = opened(5);
+        BatchPipe y = Pipes.opened(0, 5);
         y.order(0, 1, 9);
         y.rate(4);
         y.pass(1);
@@ -126,7 +117,7 @@ public final class OrdersRatesDropsTest {
     }
 
     private static void dropTakesOnTheWay() {
-        BatchPipe x = opened(5, 6, 7);
+        BatchPipe x = Pipes.opened(0, 5, 6, 7);
         x.order(0, 1, 100);
         x.rate(5);
         x.drop(1, 2, 3);
@@ -184,7 +175,7 @@ public final class OrdersRatesDropsTest {
     }
 
     private static void dropIsReplacedAndEnded() {
-        BatchPipe x = opened(5, 5, 5);
+        BatchPipe x = Pipes.opened(0, 5, 5, 5);
         x.order(0, 0, 100);
         x.rate(4);
         x.pass(1);
@@ -204,7 +195,7 @@ public final class OrdersRatesDropsTest {
     }
 
     private static void leakTakesOnTheWay() {
-        BatchPipe x = opened(5, 5);
+        BatchPipe x = Pipes.opened(0, 5, 5);
         x.order(0, 1, 100);
         x.rate(3);
         x.leak(0, 2);
@@ -224,7 +215,7 @@ public final class OrdersRatesDropsTest {
     }
 
     private static void leakComesAheadOfTheDrop() {
-        BatchPipe x = opened(5, 5, 5);
+        BatchPipe x = Pipes.opened(0, 5, 5, 5);
         x.order(0, 0, 100);
         x.rate(5);
         x.drop(0, 2, 1);
@@ -272,7 +263,7 @@ public final class OrdersRatesDropsTest {
     }
 
     private static void leakIsReplacedAndEnded() {
-        BatchPipe x = opened(5, 5, 5);
+        BatchPipe x = Pipes.opened(0, 5, 5, 5);
         x.order(0, 0, 100);
         x.rate(2);
         x.pass(1);
@@ -310,7 +301,7 @@ public final class OrdersRatesDropsTest {
     }
 
     private static void emptyPoursOut() {
-        BatchPipe x = opened(5);
+        BatchPipe x = Pipes.opened(0, 5);
         x.order(0, 4, 150);
         x.rate(10);
         x.pass(1);
@@ -360,7 +351,7 @@ public final class OrdersRatesDropsTest {
     }
 
     private static void pigCleansToTheOutlet() {
-        BatchPipe x = opened(5, 5, 5);
+        BatchPipe x = Pipes.opened(0, 5, 5, 5);
         x.order(0, 0, 100);
         x.rate(1);
         x.pass(7);
@@ -377,7 +368,7 @@ public final class OrdersRatesDropsTest {
     }
 
     private static void pigCleansToWhereItWent() {
-        BatchPipe x = opened(5, 5, 5);
+        BatchPipe x = Pipes.opened(0, 5, 5, 5);
         x.order(0, 0, 100);
         x.rate(2);
         x.pass(10);
@@ -407,7 +398,7 @@ public final class OrdersRatesDropsTest {
     }
 
     private static void passAnswersWhatEntered() {
-        BatchPipe x = opened(5);
+        BatchPipe x = Pipes.opened(0, 5);
         x.rate(7);
         Check.due("nothing waits", 0, x.pass(1));
         Check.due("the minute goes on", 1, x.pipe(5));
@@ -441,7 +432,7 @@ public final class OrdersRatesDropsTest {
     }
 
     private static void passEndsAtTheLastMinute() {
-        BatchPipe x = opened(5);
+        BatchPipe x = Pipes.opened(0, 5);
         for (int k = 0; k < 166; k++) {
             x.pass(60);
         }
